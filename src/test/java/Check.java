@@ -1,0 +1,39 @@
+import java.util.concurrent.Callable;
+
+/** Counts and prints the answers that are not the ones that are due. */
+final class Check {
+    private final String name;
+    private int asked;
+    private int wrong;
+
+    Check(String name) {
+        this.name = name;
+    }
+
+    void same(String call, Object got, Object due) {
+        asked++;
+        if (!due.equals(got)) {
+            wrong++;
+            System.out.println(name + ": " + call + " answered " + got + ", due is " + due);
+        }
+    }
+
+    /** The very class is due: what the machine throws is often a class below the one the document names. */
+    void throwing(String call, Class<? extends RuntimeException> due, Callable<?> body) {
+        Object got;
+        try {
+            got = "the answer " + body.call();
+        } catch (Exception e) {
+            got = e.getClass();
+        }
+        same(call, got, due);
+    }
+
+    /** Prints how it went, and ends the program with exit code 1 if an answer was wrong. */
+    void end() {
+        System.out.println(name + ": " + asked + " answers, " + wrong + " wrong");
+        if (wrong > 0) {
+            System.exit(1);
+        }
+    }
+}
