@@ -163,5 +163,10 @@ public final class IslandTest {
         gear.open(1);
         gear.setLoad(2, 3);
         CHECK.same("liveShare() of the dark", gear.liveShare(), 0f);
+        gear.close(1);
+        CHECK.same("meanCurrent() asked first", gear.meanCurrent(), 3.0);
+        gear.setLoad(2, 0);
+        gear.setLoad(1, 5);
+        CHECK.same("meanCurrent() asked first again", gear.meanCurrent(), 2.5);
     }
 }

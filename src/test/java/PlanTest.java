@@ -11,6 +11,7 @@ public final class PlanTest {
         whatCanBePlanned();
         limitOfTrying();
         closingThePlan();
+        eachAsksAnew();
         CHECK.end();
     }
 
@@ -183,5 +184,36 @@ public final class PlanTest {
         CHECK.same("trips()", gear.trips(), 0);
         best(gear, 70);
         CHECK.same("restore() again", gear.restore(), 0);
+    }
+
+    /** One bus that is the lowest node, one line: each call is the first one after a change. */
+    private static void eachAsksAnew() {
+        for (int first = 0; first < 6; first++) {
+            Switchgear gear = new Switchgear();
+            gear.addBus(7, 6);
+            gear.addSource(7);
+            gear.addLine(0, 1, 7, true);
+            int got = switch (first) {
+                case 0 -> gear.bestValue();
+                case 1 -> gear.bestSize();
+                case 2 -> gear.bestAt(0);
+                case 3 -> gear.valueByTrying();
+                case 4 -> gear.sizeByTrying();
+                default -> gear.restore();
+            };
+            CHECK.same("the first question, number " + first, got, new int[] {42, 1, 0, 42, 1, 1}[first]);
+            CHECK.same("isClosed(0) after it", gear.isClosed(0), first == 5);
+            gear.fault(0);
+            gear.repair(0);
+            got = switch (first) {
+                case 0 -> gear.bestValue();
+                case 1 -> gear.bestSize();
+                case 2 -> gear.islands();
+                case 3 -> gear.valueByTrying();
+                case 4 -> gear.sizeByTrying();
+                default -> gear.reset(0);
+            };
+            CHECK.same("the next question, number " + first, got, new int[] {42, 1, 2, 42, 1, 0}[first]);
+        }
     }
 }

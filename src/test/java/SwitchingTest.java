@@ -137,6 +137,10 @@ public final class SwitchingTest {
         opening(gear, 1, 'n');
         closing(gear, 0, 'n');
         closing(gear, 1, 'd');
+        gear.setLoad(1, 1);
+        closing(gear, 1, 'd');
+        gear.setLoad(1, 0);
+        closing(gear, 1, 'n');
     }
 
     private static void capacity() {
