@@ -14,8 +14,20 @@ final class Check {
         asked++;
         if (!due.equals(got)) {
             wrong++;
-            System.out.println(name + ": " + call + " answered " + got + ", due is " + due);
+            System.out.println(name + "." + test() + ": " + call + " answered " + got + ", due is " + due);
         }
+    }
+
+    /** The method that main called: in the tests of the boundary cases it stands for one sentence. */
+    private static String test() {
+        String below = "";
+        for (StackTraceElement frame : new Throwable().getStackTrace()) {
+            if (frame.getMethodName().equals("main")) {
+                break;
+            }
+            below = frame.getMethodName();
+        }
+        return below;
     }
 
     /** The very class is due: what the machine throws is often a class below the one the document names. */

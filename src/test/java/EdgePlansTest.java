@@ -20,6 +20,7 @@ public final class EdgePlansTest {
         inTheOrderOfTheirNumbers();
         linesBetweenDarkIslands();
         noPlanOverAFault();
+        noDisconnectorIsPlanned();
         nineLinesToTry();
         whichLinesAreCounted();
         twelveLinesToSearch();
@@ -281,6 +282,23 @@ public final class EdgePlansTest {
         best(gear, 3, 0, 1, 2);
         gear.fault(0);
         best(gear, 0);
+    }
+
+    /** "and switched by a breaker": a disconnector that could be closed, and would be worth it, is left out. */
+    private static void noDisconnectorIsPlanned() {
+        Switchgear gear = Net.sourceAndBuses(99, 0, 10, 5);
+        gear.addLine(0, 1, 999, false);
+        gear.addLine(1, 2, 999, true);
+        gear.addLine(0, 3, 999, true);
+        CHECK.same("canClose(0)", gear.canClose(0), 'n');
+        best(gear, 5, 2);
+        Net.closed(gear, 0);
+        best(gear, 15, 1, 2);
+        Switchgear dark = Net.sourceAndBuses(99, 10, 5);
+        dark.addLine(1, 2, 999, false);
+        dark.addLine(0, 1, 999, true);
+        CHECK.same("canClose(0) of two dark islands", dark.canClose(0), 'n');
+        best(dark, 10, 1);
     }
 
     /** "if there are more than 9 lines of which plans can consist": nine, ten and twelve, whatever they are worth. */
